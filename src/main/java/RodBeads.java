@@ -10,6 +10,7 @@ public final class RodBeads {
     private static final int MOST_KEPT = 2;
     private static final int MOST_SEEN = 6;
     private static final int MOST_CLAUSES = 12;
+    private static final int MOST_DIGITS = 2;
     private static final int GREATEST_NUMBER = 1000000000;
     private static final int GREATEST_OF_TOUR = 1000000;
     private static final int NEIGHBOURHOOD = 500;
@@ -76,7 +77,17 @@ public final class RodBeads {
             return NOT;
         }
         remember();
-        int done = doStatements();
+        text.begin();
+        int done = 0;
+        boolean more = true;
+        while (more && done < MOST_CLAUSES) {
+            sums.readStatement(text, frame.size, theNumber());
+            more = doStatement();
+            if (more) {
+                done++;
+                more = text.another(done);
+            }
+        }
         text.size = 0;
         return done;
     }
@@ -141,7 +152,7 @@ public final class RodBeads {
             return UNKNOWN;
         }
         remember();
-        now.stuck ^= partBit(rod, part);
+        now.stuck ^= Standing.partBit(rod, part);
         return now.isStuck(rod, part) ? 1 : 0;
     }
 
@@ -363,10 +374,6 @@ public final class RodBeads {
         return number >= 0 && number <= GREATEST_OF_TOUR;
     }
 
-    private static int partBit(int rod, int part) {
-        return 1 << (2 * rod + part);
-    }
-
     private static Standing[] newStandings(int n) {
         Standing[] row = new Standing[Math.max(n, 0)];
         for (int i = 0; i < row.length; i++) {
@@ -489,21 +496,6 @@ public final class RodBeads {
                 }
             }
         }
-    }
-
-    private int doStatements() {
-        text.begin();
-        int done = 0;
-        boolean more = true;
-        while (more && done < MOST_CLAUSES) {
-            sums.readStatement(text, frame.size, theNumber());
-            if (!doStatement()) {
-                return done;
-            }
-            done++;
-            more = text.another(done);
-        }
-        return done;
     }
 
     private boolean doStatement() {
@@ -696,12 +688,10 @@ public final class RodBeads {
             super(base, lowBeads, 0);
         }
 
-        @Override
         int kindNumber() {
             return 0;
         }
 
-        @Override
         int highWorth() {
             return 0;
         }
@@ -712,12 +702,10 @@ public final class RodBeads {
             super(base, lowBeads, highBeads);
         }
 
-        @Override
         int kindNumber() {
             return 1;
         }
 
-        @Override
         int highWorth() {
             return 5;
         }
@@ -728,17 +716,14 @@ public final class RodBeads {
             super(base, lowBeads, highBeads);
         }
 
-        @Override
         int kindNumber() {
             return 2;
         }
 
-        @Override
         int lowTime() {
             return 2;
         }
 
-        @Override
         int highTime() {
             return 2;
         }
@@ -749,17 +734,14 @@ public final class RodBeads {
             super(base, lowBeads, highBeads);
         }
 
-        @Override
         int kindNumber() {
             return 3;
         }
 
-        @Override
         int highWorth() {
             return lowBeads + 1;
         }
 
-        @Override
         int highTime() {
             return 3;
         }
@@ -801,6 +783,10 @@ public final class RodBeads {
             Rows.put(part == HIGH ? high : low, rod, n);
         }
 
+        static int partBit(int rod, int part) {
+            return 1 << (2 * rod + part);
+        }
+
         boolean isStuck(int rod, int part) {
             return (stuck & partBit(rod, part)) != 0;
         }
@@ -825,13 +811,13 @@ public final class RodBeads {
     /** THE TEXT, and the token of it that is being read. */
     private static final class Text {
         private static final int MOST_LETTERS = 160;
-        private static final int SMALL = 0, DIGIT = 1, OTHER = 2;
 
         private final int[] letters = new int[MOST_LETTERS];
         int size = 0;
         int fault = NONE;
         private int start = 0;
         private int stop = 0;
+        private boolean isNumber = false;
 
         boolean add(int letter) {
             if (size >= MOST_LETTERS) {
@@ -851,24 +837,29 @@ public final class RodBeads {
         /** Goes to the next token; at the end of the text it starts and stops there. */
         void step() {
             int i = stop;
-            while (i < size && Rows.at(letters, i) == ' ') {
+            while (i < size && letterAt(i) == ' ') {
                 i++;
             }
             start = i;
-            int sort = sortAt(i);
-            i++;
-            while (i < size && sort != OTHER && sortAt(i) == sort) {
+            isNumber = i < size && isDigit(letterAt(i));
+            boolean isWord = i < size && isSmall(letterAt(i));
+            i = Math.min(i + 1, size);
+            while (i < size && (isNumber && isDigit(letterAt(i)) || isWord && isSmall(letterAt(i)))) {
                 i++;
             }
-            stop = Math.min(i, size);
+            stop = i;
         }
 
-        private int sortAt(int i) {
-            int letter = Rows.at(letters, i);
-            if (letter >= 'a' && letter <= 'z') {
-                return SMALL;
-            }
-            return letter >= '0' && letter <= '9' ? DIGIT : OTHER;
+        private int letterAt(int i) {
+            return i >= 0 && i < letters.length ? letters[i] : 0;
+        }
+
+        private static boolean isSmall(int letter) {
+            return letter >= 'a' && letter <= 'z';
+        }
+
+        private static boolean isDigit(int letter) {
+            return letter >= '0' && letter <= '9';
         }
 
         boolean isSound() {
@@ -887,7 +878,7 @@ public final class RodBeads {
         }
 
         boolean isSign(char sign) {
-            return start < size && Rows.at(letters, start) == sign;
+            return start < size && letterAt(start) == sign;
         }
 
         boolean isWord(String word) {
@@ -895,38 +886,25 @@ public final class RodBeads {
                 return false;
             }
             for (int i = 0; i < word.length(); i++) {
-                if (Rows.at(letters, start + i) != word.charAt(i)) {
+                if (letterAt(start + i) != word.charAt(i)) {
                     return false;
                 }
             }
             return true;
         }
 
-        /** Reads a number of so many digits at most; a token that is none such is a fault. */
-        int takeDigits(int mostDigits) {
-            return takeNumber(mostDigits, 0, Integer.MAX_VALUE);
-        }
-
-        int takeBounded(int least, int greatest) {
-            return takeNumber(2, least, greatest);
-        }
-
-        private int takeNumber(int mostDigits, int least, int greatest) {
-            boolean fits = start < size && sortAt(start) == DIGIT && stop - start <= mostDigits;
-            int value = fits ? digitsValue() : 0;
-            if (!isSound() || !fits || value < least || value > greatest) {
+        /** Reads a number; a token that is none, has more digits or is out of its bounds is a fault. */
+        int takeNumber(int mostDigits, int least, int greatest) {
+            boolean fits = isSound() && isNumber && stop - start <= mostDigits;
+            int value = 0;
+            for (int i = start; i < stop && fits; i++) {
+                value = value * 10 + (letterAt(i) - '0');
+            }
+            if (!fits || value < least || value > greatest) {
                 fail();
                 return 0;
             }
             step();
-            return value;
-        }
-
-        private int digitsValue() {
-            int value = 0;
-            for (int i = start; i < stop; i++) {
-                value = value * 10 + (Rows.at(letters, i) - '0');
-            }
             return value;
         }
 
@@ -982,10 +960,10 @@ public final class RodBeads {
                 told = 0;
             } else if (text.isWord("stuck")) {
                 text.step();
-                int rod = text.takeBounded(0, size - 1);
-                int part = text.takeBounded(0, 1);
+                int rod = text.takeNumber(MOST_DIGITS, 0, size - 1);
+                int part = text.takeNumber(MOST_DIGITS, 0, 1);
                 if (text.isSound()) {
-                    told |= partBit(rod, part);
+                    told |= Standing.partBit(rod, part);
                 }
             } else {
                 readRod(text, kindTold(text));
@@ -1011,9 +989,9 @@ public final class RodBeads {
                 return;
             }
             text.step();
-            int base = text.takeBounded(2, 16);
-            int lowBeads = text.takeBounded(1, 9);
-            int highBeads = kind == 0 ? 0 : text.takeBounded(0, 3);
+            int base = text.takeNumber(MOST_DIGITS, 2, 16);
+            int lowBeads = text.takeNumber(MOST_DIGITS, 1, 9);
+            int highBeads = kind == 0 ? 0 : text.takeNumber(MOST_DIGITS, 0, 3);
             if (text.isSound()) {
                 rods[size] = makeRod(kind, base, lowBeads, highBeads);
                 size++;
@@ -1066,7 +1044,7 @@ public final class RodBeads {
             }
             text.step();
             if (verb == CARRY) {
-                value = text.takeBounded(0, rods - 1);
+                value = text.takeNumber(MOST_DIGITS, 0, rods - 1);
             } else if (verb != CLEAR) {
                 value = expression(text, 0);
             }
@@ -1088,23 +1066,10 @@ public final class RodBeads {
             return text.isWord("carry") ? CARRY : NONE;
         }
 
+        /** The terms are gathered into the sum, the parts of the latest term into the product. */
         private long expression(Text text, int depth) {
-            long sum = term(text, depth);
-            for (int i = 0; i < MOST_STEPS && text.isSound(); i++) {
-                if (text.isSign('+')) {
-                    text.step();
-                    sum = bounded(sum + term(text, depth));
-                } else if (text.isSign('-')) {
-                    text.step();
-                    sum = bounded(sum - term(text, depth));
-                } else {
-                    return sum;
-                }
-            }
-            return sum;
-        }
-
-        private long term(Text text, int depth) {
+            long sum = 0;
+            boolean isLess = false;
             long product = part(text, depth);
             for (int i = 0; i < MOST_STEPS && text.isSound(); i++) {
                 if (text.isSign('*')) {
@@ -1113,11 +1078,16 @@ public final class RodBeads {
                 } else if (text.isSign('/')) {
                     text.step();
                     product = divided(product, part(text, depth));
+                } else if (text.isSign('+') || text.isSign('-')) {
+                    sum = bounded(isLess ? sum - product : sum + product);
+                    isLess = text.isSign('-');
+                    text.step();
+                    product = part(text, depth);
                 } else {
-                    return product;
+                    break;
                 }
             }
-            return product;
+            return bounded(isLess ? sum - product : sum + product);
         }
 
         private long part(Text text, int depth) {
@@ -1126,7 +1096,7 @@ public final class RodBeads {
                 return theNumber;
             }
             if (!text.isSign('(')) {
-                return text.takeDigits(7);
+                return text.takeNumber(7, 0, GREATEST_NUMBER);
             }
             if (depth >= MOST_DEPTH) {
                 text.fail();
@@ -1230,7 +1200,7 @@ public final class RodBeads {
             int off = Math.abs(n - standing.beads(i, part));
             boolean isStuck = standing.isStuck(i, part);
             if (loosening) {
-                return isStuck && off > 0 ? A_PART_LOOSENED + partBit(i, part) : 0;
+                return isStuck && off > 0 ? A_PART_LOOSENED + Standing.partBit(i, part) : 0;
             }
             return isStuck && off > 0 ? FAR : off * it.timeOf(part);
         }
@@ -1307,7 +1277,7 @@ public final class RodBeads {
         }
 
         private boolean isInReach(int i, int left) {
-            return left >= fewestFrom(i) && left <= mostFrom(i);
+            return left >= Rows.at(fewest, i) && left <= Rows.at(most, i);
         }
 
         /** The least cost by which rod i and those behind it show what is left. */

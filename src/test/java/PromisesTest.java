@@ -103,7 +103,19 @@ public final class PromisesTest {
         dueFault(x, "Frame", 0, 0);
         dueFault(x, "frame.", 0, 5);
         dueFault(x, "frame\t", 0, 5);
+        dueFault(x, "framea", 0, 0);
+        dueFault(x, "framez", 0, 0);
+        dueFault(x, "frame`", 0, 5);
+        dueFault(x, "frame{", 0, 5);
+        dueFault(x, "prame", 0, 0);
+        dueFault(x, "blain 2 1", 0, 0);
+        dueFault(x, "hive 2 1 1", 0, 0);
+        dueFault(x, "flow 2 1 1", 0, 0);
+        dueFault(x, "weir 2 1 1", 0, 0);
+        dueFault(x, "plain 2 1;ttuck 0 0", 0, 10);
         dueFault(x, "clear", 0, 0);
+        dueFault(x, "plain 10:9", 0, 8);
+        dueFault(x, "plain 10/9", 0, 8);
         dueFault(x, "plain 2 1", 0, NONE);
         dueFault(x, "plain 16 9", 0, NONE);
         dueFault(x, "plain16 9", 0, NONE);
@@ -170,6 +182,11 @@ public final class PromisesTest {
         dueFault(x, "clear 1", 1, 6);
         dueFault(x, "clear;", 1, 6);
         dueFault(x, "frame", 1, 0);
+        dueFault(x, "bet 1", 1, 0);
+        dueFault(x, "odd 1", 1, 0);
+        dueFault(x, "hub 1", 1, 0);
+        dueFault(x, "blear", 1, 0);
+        dueFault(x, "harry 0", 1, 0);
         dueFault(x, "set", 1, 3);
         dueFault(x, "set5", 1, NONE);
         dueFault(x, "set 1234567", 1, NONE);
@@ -268,6 +285,12 @@ public final class PromisesTest {
         dueRun(x, "set 1000000*1000000+1-1000000*1000000", 0, 100);
         dueRun(x, "set 0-1000000*1000000+1000000*1000000", 1, 0);
         dueRun(x, "set 0-1000000*1000000-1+1000000*1000000", 0, 0);
+        dueRun(x, "set 999999*1000000+1000000-1000000*1000000", 1, 0);
+        dueRun(x, "set (1000000*1000000+1)*0", 0, 0);
+        dueRun(x, "set (0-1000000*1000000-1)*0", 0, 0);
+        // 2 to the power of 32, and 5: no 5.
+        dueRun(x, "set 4294967*1000+301", 0, 0);
+        dueRun(x, "sub 0-4294967*1000-301", 0, 0);
         dueRun(x, "set 9999999*9999999*9999999*9999999*0", 0, 0);
         dueRun(x, "set 9999999*0*9999999*9999999", 1, 0);
         dueRun(x, "set 5;carry 2", 1, 5);
@@ -575,7 +598,9 @@ public final class PromisesTest {
     }
 
     private static void keeps() {
-        promise = 15;
+        promise = 16;
+        due("back(0) of a new object", new RodBeads().back(0), NOT);
+        due("back(1) of a new object", new RodBeads().back(1), NOT);
         RodBeads x = framed("five 10 4 1;plain 10 9");
         promise = 15;
         due("keep(-1)", x.keep(-1), UNKNOWN);
