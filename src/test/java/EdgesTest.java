@@ -364,6 +364,40 @@ public final class EdgesTest {
         due("undo()", x.undo(), NOT);
         frame(x, "five 10 4 1");
         due("count(2), what was told to be STUCK is gone", x.count(2), 0);
+        noTracksOf(times("heir 16 9 3", 6), "plain 3 1;plain 3 1");
+        noTracksOf(times("slow 2 1 3", 5), "five 3 4 1");
+        noTracksOf("plain 2 1;heir 9 4 2;plain 2 2;stuck 0 0;stuck 1 1", "plain 9 1;slow 2 2 2;plain 2 1");
+    }
+
+    /** A frame answers as it would on a new object, whatever the object showed and foretold ahead of it. */
+    private static void noTracksOf(String first, String then) {
+        RodBeads x = framed(first);
+        RodBeads y = framed(then);
+        int most = (int) x.span(0);
+        x.set(most);
+        for (int rod = 0; rod < x.count(0); rod++) {
+            x.stick(rod, 0);
+        }
+        x.span(1);
+        x.nearest(most);
+        x.loosen(most);
+        x.ways(most);
+        x.tour(1, 2, 3, 0);
+        frame(x, "frame;" + then);
+        for (int what = 0; what < 3; what++) {
+            due("span(" + what + ") behind " + first, x.span(what), y.span(what));
+        }
+        for (int n = 0; n < 40; n++) {
+            String told = "(" + n + ") of " + then + " behind " + first;
+            due("ways" + told, x.ways(n), y.ways(n));
+            due("time" + told, x.time(n), y.time(n));
+            due("nearest" + told, x.nearest(n), y.nearest(n));
+            due("loosen" + told, x.loosen(n), y.loosen(n));
+        }
+        for (int n = 0; n < 40; n++) {
+            due("set(" + n + ") of " + then + " behind " + first, x.set(n), y.set(n));
+            due("number()", x.number(), y.number());
+        }
     }
 
     private static void stuckClauses() {
@@ -656,6 +690,20 @@ public final class EdgesTest {
         z.stick(0, 1);
         z.stick(1, 0);
         due("carry(0), HIGH ones STUCK, none there", z.carry(0), 2 + 2);
+        // The next one SHOWS by its own HIGH beads' worth: an HEIR's of 3, not 5.
+        RodBeads w = framed("five 2 2 1;heir 10 2 2;plain 2 1");
+        w.push(0, 0, 2);
+        w.push(1, 1, 1);
+        due("carry(0)", w.carry(0), 2 + 1);
+        dueBeads(w, "001100");
+        // The last of six has no next one either, all its beads being loose.
+        RodBeads six = framed(times("plain 2 9", 6));
+        for (int rod = 0; rod < 6; rod++) {
+            six.push(rod, 0, 3);
+        }
+        due("carry(5)", six.carry(5), NOT);
+        due("carry(4)", six.carry(4), 2 + 1);
+        dueBeads(six, "303030301040");
     }
 
     private static void timeAtMost() {
@@ -950,6 +998,11 @@ public final class EdgesTest {
         due("FEWEST", x.span(1), 1000);
         due("MOST", x.span(0), 1500);
         due("GAP", x.span(2), NONE);
+        x = framed(times("plain 16 9", 6));
+        x.push(5, 0, 9);
+        x.stick(5, 0);
+        due("FEWEST", x.span(1), 0x900000);
+        due("GAP", x.span(2), 0x90000a);
         due("span(-1)", x.span(-1), OUTSIDE);
         due("span(3)", x.span(3), OUTSIDE);
     }
@@ -969,6 +1022,10 @@ public final class EdgesTest {
         for (int n : shown) {
             due("nearest(" + n + ")", x.nearest(n), n);
         }
+        due("nearest(1)", x.nearest(1), 0);
+        due("nearest(15)", x.nearest(15), 16);
+        due("nearest(17)", x.nearest(17), 16);
+        due("nearest(255)", x.nearest(255), 256);
         due("nearest(7)", x.nearest(7), 0);
         due("nearest(8), of two the lesser", x.nearest(8), 0);
         due("nearest(9)", x.nearest(9), 16);
@@ -992,6 +1049,20 @@ public final class EdgesTest {
         due("nearest(500), 0 and 1000 are both 500 off", z.nearest(500), 0);
         due("nearest(501)", z.nearest(501), 1000);
         due("nearest(499)", z.nearest(499), 0);
+        // Far up, too: what is shown has no digit above 9 in base 16.
+        RodBeads six = framed(times("plain 16 9", 6));
+        due("nearest(0x999999)", six.nearest(0x999999), 0x999999);
+        due("nearest(0x99999a)", six.nearest(0x99999a), 0x999999);
+        due("nearest(0x999999 + 500)", six.nearest(0x999999 + 500), 0x999999);
+        due("nearest(0x999999 + 501)", six.nearest(0x999999 + 501), NONE);
+        due("nearest(0x990000 - 1)", six.nearest(0x990000 - 1), 0x990000);
+        due("nearest(0x990000 - 500)", six.nearest(0x990000 - 500), 0x990000);
+        due("nearest(0x990000 - 501)", six.nearest(0x990000 - 501), NONE);
+        due("nearest(0x989999 + 500)", six.nearest(0x989999 + 500), 0x989999);
+        due("nearest(0x989999 + 501)", six.nearest(0x989999 + 501), NONE);
+        due("nearest(0x98999c), of two the first is far nearer", six.nearest(0x98999c), 0x989999);
+        due("nearest(0x98980c)", six.nearest(0x98980c), 0x989809);
+        due("nearest(0x98980d)", six.nearest(0x98980d), 0x989810);
     }
 
     private static void loosens() {
@@ -1452,6 +1523,102 @@ public final class EdgesTest {
         due("back(1)", x.back(1), 0);
     }
 
+    private static void foretoldPromises() {
+        RodBeads x = framed("five 10 4 1;plain 10 9;stuck 1 0");
+        x.push(0, 0, 2);
+        says("The place of the FAULT of THE TEXT, taken as a FRAME (what 0), as SUMS (1); NONE. OUTSIDE.");
+        int[] places = {OUTSIDE, 0, NONE, OUTSIDE};
+        write(x, "clear");
+        for (int what = -1; what <= 2; what++) {
+            due("fault(" + what + ")", x.fault(what), places[what + 1]);
+        }
+        x.erase();
+
+        says("`int ways(int number)`: WAYS. OUTSIDE.");
+        numbers(x, "ways", new long[] {OUTSIDE, 1, 1, 0, 0, OUTSIDE}, n -> x.ways(n));
+        says("LEAST TIME; NONE. OUTSIDE.");
+        numbers(x, "time", new long[] {OUTSIDE, 2, 3, NONE, NONE, OUTSIDE}, n -> x.time(n));
+        says("NEAREST; NONE. OUTSIDE.");
+        numbers(x, "nearest", new long[] {OUTSIDE, 0, 9, 9, NONE, OUTSIDE}, n -> x.nearest(n));
+        says("LOOSEN; NONE. OUTSIDE.");
+        numbers(x, "loosen", new long[] {OUTSIDE, 0, 0, 4, NONE, OUTSIDE}, n -> x.loosen(n));
+        says("How many beads of a part of a ROD would be PUSHED, the number being SET; NONE: it cannot be shown. UNKNOWN; OUTSIDE.");
+        numbers(x, "pushed", new long[] {OUTSIDE, 0, 4, NONE, NONE, OUTSIDE}, n -> x.pushed(n, 0, 0));
+        numbers(x, "pushed, HIGH", new long[] {OUTSIDE, 0, 1, NONE, NONE, OUTSIDE}, n -> x.pushed(n, 0, 1));
+        numbers(x, "pushed, no ROD", new long[] {-2, -2, -2, -2, -2, -2}, n -> x.pushed(n, 2, 0));
+        numbers(x, "pushed, no ROD", new long[] {-2, -2, -2, -2, -2, -2}, n -> x.pushed(n, -1, 1));
+        numbers(x, "pushed, no part", new long[] {-2, -2, -2, -2, -2, -2}, n -> x.pushed(n, 0, 2));
+        numbers(x, "pushed, no part", new long[] {-2, -2, -2, -2, -2, -2}, n -> x.pushed(n, 1, -1));
+
+        says("MOST (what 0), FEWEST (1), GAP (2; NONE). OUTSIDE (0: -3).");
+        long[] spans = {-3, 9, 0, 10, -3};
+        for (int what = -1; what <= 3; what++) {
+            due("span(" + what + ")", x.span(what), spans[what + 1]);
+        }
+
+        says("TOUR: TIME (what 0), the order (1); NONE. OUTSIDE.");
+        // From 2: 9 1 0 takes 8, 9 0 1 9, 1 9 0 10, 1 0 9 7, 0 9 1 11, 0 1 9 7.
+        int[] tours = {OUTSIDE, 7, 3, OUTSIDE};
+        int[] notShown = {OUTSIDE, NONE, NONE, OUTSIDE};
+        for (int what = -1; what <= 2; what++) {
+            due("tour(9, 1, 0, " + what + ")", x.tour(9, 1, 0, what), tours[what + 1]);
+            due("tour(1, 0, 10, " + what + ")", x.tour(1, 0, 10, what), notShown[what + 1]);
+            due("tour(1, 1000001, 10, " + what + ")", x.tour(1, 1000001, 10, what), OUTSIDE);
+        }
+    }
+
+    private interface OfNumber {
+        long answer(int n);
+    }
+
+    /** What is answered to the numbers at the edges: of all, and of a frame that shows 0 .. 9. */
+    private static void numbers(RodBeads x, String call, long[] want, OfNumber it) {
+        int[] numbers = {-1, 0, 9, 10, 1000000000, 1000000001};
+        for (int i = 0; i < numbers.length; i++) {
+            due(call + " of " + numbers[i], it.answer(numbers[i]), want[i]);
+        }
+        due("number(), nothing changes", x.number(), 2);
+    }
+
+    private static void seenPromises() {
+        RodBeads x = framed("five 10 4 1");
+        says("SEEN: how many. UNKNOWN; OUTSIDE; FULL.");
+        for (int n = 1; n <= 6; n++) {
+            due("seen(0, 4, 4)", x.seen(0, 4, 4), n);
+        }
+        due("seen(0, 4, 4)", x.seen(0, 4, 4), FULL);
+        due("seen(0, 41, 4), OUTSIDE is ahead of FULL", x.seen(0, 41, 4), OUTSIDE);
+        due("seen(0, 4, 100)", x.seen(0, 4, 100), OUTSIDE);
+        due("seen(1, 41, 100), UNKNOWN is ahead of both", x.seen(1, 41, 100), UNKNOWN);
+        says("KINDS, by bits. UNKNOWN.");
+        due("kinds(-1)", x.kinds(-1), UNKNOWN);
+        due("kinds(0)", x.kinds(0), 1 + 2 + 8);
+        due("kinds(1)", x.kinds(1), UNKNOWN);
+        says("SEEN is nothing: how many there were.");
+        due("forget()", x.forget(), 6);
+        due("forget()", x.forget(), 0);
+        due("kinds(0)", x.kinds(0), 15);
+        says("SLIPS. UNKNOWN; OUTSIDE.");
+        due("slips(0, 0, 0, 0)", x.slips(0, 0, 0, 0), 1);
+        due("slips(0, 10, 60, 0)", x.slips(0, 10, 60, 0), 0);
+        due("slips(0, 10, 60, 1)", x.slips(0, 10, 60, 1), 1);
+        due("slips(0, 11, 60, 1)", x.slips(0, 11, 60, 1), OUTSIDE);
+        due("slips(0, 10, 61, 1)", x.slips(0, 10, 61, 1), OUTSIDE);
+        due("slips(0, -1, 60, 1)", x.slips(0, -1, 60, 1), OUTSIDE);
+        due("slips(0, 10, -1, 1)", x.slips(0, 10, -1, 1), OUTSIDE);
+        due("slips(0, 11, 61, 2), UNKNOWN is ahead of OUTSIDE", x.slips(0, 11, 61, 2), UNKNOWN);
+        due("slips(1, 11, 61, 0)", x.slips(1, 11, 61, 0), UNKNOWN);
+
+        says("An object is used for at most 512 calls after it has been made; what later calls answer is free.");
+        RodBeads y = framed("plain 10 9");
+        // Ten letters and frame() were calls 1 .. 11.
+        for (int call = 12; call <= 511; call++) {
+            int n = (call - 11) % 10;
+            due("set(" + n + "), call " + call, y.set(n), n == 0 ? 9 : 1);
+        }
+        due("count(3), call 512", y.count(3), 450 + 50 * 9);
+    }
+
     private static void countPromise() {
         says("0 RODS, 1 beads that are PUSHED, 2 STUCK parts (bits, as LOOSEN's), 3 TIME in all, 4 SEEN, 5 how many can be undone, 6"
                 + " letters of THE TEXT, 7 RODS that SHOW their BASE or more (bits). OUTSIDE.");
@@ -1527,6 +1694,8 @@ public final class EdgesTest {
         toldPromises();
         donePromises();
         undonePromises();
+        foretoldPromises();
+        seenPromises();
         countPromise();
         sentencesStand();
         System.out.println(SENTENCES.size() + " sentences, " + checks + " answers, " + wrong + " of them not as due");
