@@ -696,6 +696,18 @@ public final class EdgesTest {
         w.push(1, 1, 1);
         due("carry(0)", w.carry(0), 2 + 1);
         dueBeads(w, "001100");
+        // The next one at its most, of each KIND, and one below it; a third ROD is no help.
+        for (String next : new String[] {"plain 2 9", "five 2 9 3", "slow 2 9 3", "heir 2 9 3"}) {
+            RodBeads v = framed("plain 2 3;" + next + ";plain 2 9");
+            v.push(0, 0, 3);
+            v.push(1, 0, 9);
+            v.push(1, 1, v.rod(1, 3));
+            due("carry(0), at its most: " + next, v.carry(0), NOT);
+            v.push(1, 0, 8);
+            due("carry(0), one below: " + next, v.carry(0), next.startsWith("slow") ? 2 + 2 : 2 + 1);
+            due("rod(1, 8)", v.rod(1, 8), v.rod(1, 9));
+            due("rod(2, 8)", v.rod(2, 8), 0);
+        }
         // The last of six has no next one either, all its beads being loose.
         RodBeads six = framed(times("plain 2 9", 6));
         for (int rod = 0; rod < 6; rod++) {
