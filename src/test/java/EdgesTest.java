@@ -135,6 +135,17 @@ public final class EdgesTest {
     }
 
     private static void bounds() {
+        says("each of a KIND, 0 PLAIN, 1 FIVE, 2 SLOW, 3 HEIR, with a BASE (2 ..");
+        for (int kind = 0; kind < 4; kind++) {
+            for (int base = 2; base <= 16; base += 14) {
+                RodBeads one = framed(WORDS[kind] + " " + base + " 3" + (kind == 0 ? "" : " 1"));
+                due("KIND of " + WORDS[kind], one.rod(0, 0), kind);
+                due("BASE of " + WORDS[kind], one.rod(0, 1), base);
+            }
+            faultAt(new RodBeads(), 0, WORDS[kind] + " |1 3 1");
+            faultAt(new RodBeads(), 0, WORDS[kind] + " |17 3 1");
+        }
+
         says("16), LOW beads (1 .. 9), HIGH beads (0 .. 3; of a PLAIN one none)");
         RodBeads x = new RodBeads();
         for (int kind = 0; kind < 4; kind++) {
@@ -560,8 +571,14 @@ public final class EdgesTest {
             }
             due("as(" + rod + ", 5)", x.as(rod, 5), OUTSIDE);
         }
+        says("A ROD taken as a KIND (0 .. 4, as they are over one another): what a HIGH bead of it is worth. UNKNOWN; OUTSIDE; NOT: it"
+                + " is none such.");
         due("as(4, 0)", x.as(4, 0), UNKNOWN);
         due("as(-1, 0)", x.as(-1, 0), UNKNOWN);
+        due("as(4, 5)", x.as(4, 5), UNKNOWN);
+        due("as(0, 5)", x.as(0, 5), OUTSIDE);
+        due("as(0, 4)", x.as(0, 4), NOT);
+        due("as(3, 4)", x.as(3, 4), 8);
     }
 
     // ======== 2 set, carried, sums
@@ -816,6 +833,29 @@ public final class EdgesTest {
         faultAt(x, 1, "carry |#");
         faultAt(x, 1, "carry |(0)");
         faultAt(x, 1, "carry 0|+1");
+    }
+
+    private static void faultsOfSums() {
+        says("FAULTS as in frames.");
+        RodBeads x = framed("plain 10 9");
+        // At a token's first letter, the first of several, at the end, blanks ahead of it or none.
+        faultAt(x, 1, "  |sett 1");
+        faultAt(x, 1, "set1|a");
+        faultAt(x, 1, "set   |123456789 + 1");
+        faultAt(x, 1, "set 1;  |wrong;carry 9");
+        faultAt(x, 1, "set 1 ; carry |9 ; wrong");
+        faultAt(x, 1, "set 1;|");
+        faultAt(x, 1, "set 1;  |");
+        faultAt(x, 1, "set  |");
+        faultAt(x, 1, "set 1 *  |");
+        faultAt(x, 1, "set ( 1  |");
+        faultAt(x, 1, "carry  |");
+        sound(x, 1, "  set1+2;add(3) ;  clear  ");
+        for (int letter : new int[] {0, 9, 10, '!', ',', '.', ':', '%', 'A', '[', '{', 127, 255}) {
+            faultAt(x, 1, "set 1|" + (char) letter + "1");
+            faultAt(x, 1, "set |" + (char) letter);
+            faultAt(x, 1, "|" + (char) letter + " 1");
+        }
     }
 
     private static void expressions() {
@@ -1631,6 +1671,43 @@ public final class EdgesTest {
         due("count(3), call 512", y.count(3), 450 + 50 * 9);
     }
 
+    private static void firstThatFits() {
+        says("Refused, and nothing changes: UNKNOWN (no such ROD, part), OUTSIDE (another number is not as told), NOT (not now: as told),"
+                + " FULL: the first of these that fits.");
+        RodBeads x = framed("plain 10 9;five 10 4 1;stuck 0 0");
+        x.keep(0);
+        for (int i = 0; i < 6; i++) {
+            x.seen(0, 0, 0);
+        }
+        for (int i = 0; i < 160; i++) {
+            x.write(32);
+        }
+        due("rod(2, 10)", x.rod(2, 10), UNKNOWN);
+        due("as(2, 5)", x.as(2, 5), UNKNOWN);
+        due("as(0, 5), not FIVE either", x.as(0, 5), OUTSIDE);
+        due("push(2, 0, 10)", x.push(2, 0, 10), UNKNOWN);
+        due("push(0, 2, 10), STUCK, too", x.push(0, 2, 10), UNKNOWN);
+        due("push(0, 0, 10), STUCK, too", x.push(0, 0, 10), OUTSIDE);
+        due("push(0, 0, 9), STUCK", x.push(0, 0, 9), NOT);
+        due("set(-1), cannot be shown either", x.set(-1), OUTSIDE);
+        due("set(1), cannot be shown", x.set(1), NOT);
+        due("carry(2)", x.carry(2), UNKNOWN);
+        due("carry(1), no next one, it SHOWS less", x.carry(1), NOT);
+        due("back(2), nothing kept there", x.back(2), UNKNOWN);
+        due("back(1), nothing kept there", x.back(1), NOT);
+        due("pushed(-1, 2, 0)", x.pushed(-1, 2, 0), UNKNOWN);
+        due("pushed(-1, 0, 0), cannot be shown either", x.pushed(-1, 0, 0), OUTSIDE);
+        due("seen(2, 41, 100), full, too", x.seen(2, 41, 100), UNKNOWN);
+        due("seen(0, 41, 0), full, too", x.seen(0, 41, 0), OUTSIDE);
+        due("seen(0, 40, 0), full", x.seen(0, 40, 0), FULL);
+        due("slips(2, 11, 61, 2)", x.slips(2, 11, 61, 2), UNKNOWN);
+        due("slips(0, 11, 61, 2)", x.slips(0, 11, 61, 2), UNKNOWN);
+        due("slips(0, 11, 61, 1)", x.slips(0, 11, 61, 1), OUTSIDE);
+        due("tour(1, 0, 0, 2), cannot be shown either", x.tour(1, 0, 0, 2), OUTSIDE);
+        due("write(256), full, too", x.write(256), OUTSIDE);
+        due("write(255), full", x.write(255), FULL);
+    }
+
     private static void countPromise() {
         says("0 RODS, 1 beads that are PUSHED, 2 STUCK parts (bits, as LOOSEN's), 3 TIME in all, 4 SEEN, 5 how many can be undone, 6"
                 + " letters of THE TEXT, 7 RODS that SHOW their BASE or more (bits). OUTSIDE.");
@@ -1694,6 +1771,7 @@ public final class EdgesTest {
         carries();
         timeAtMost();
         statements();
+        faultsOfSums();
         expressions();
         whatCannotBe();
         foretold();
@@ -1708,6 +1786,7 @@ public final class EdgesTest {
         undonePromises();
         foretoldPromises();
         seenPromises();
+        firstThatFits();
         countPromise();
         sentencesStand();
         System.out.println(SENTENCES.size() + " sentences, " + checks + " answers, " + wrong + " of them not as due");
